@@ -11,6 +11,7 @@ final class RingTest {
         lowestBeginning();
         lowestThatCloses();
         shorterOneComesAndGoes();
+        ofTheHighestChannels();
         due.end();
     }
 
@@ -149,5 +150,19 @@ final class RingTest {
         net.fail(5);
         due.is("the circle is broken", 0, net.ring());
         due.throwing("ringAt(0)", IndexOutOfBoundsException.class, () -> net.ringAt(0));
+    }
+
+    private static void ofTheHighestChannels() {
+        NetRoutes net = Nets.nodes(1, 16);
+        for (int k = 0; k < 38; k++) {
+            net.link(0, 1, 4);
+        }
+        net.link(14, 13, 4);
+        net.link(13, 14, 4);
+        net.route(14, 15, 155);
+        net.route(13, 15, 159);
+        due.is("ring", 2, net.ring());
+        due.is("its first", 155, net.ringAt(0));
+        due.is("its second", 159, net.ringAt(1));
     }
 }

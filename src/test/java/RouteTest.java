@@ -10,6 +10,7 @@ final class RouteTest {
         shortest();
         lowestLink();
         routesReplacesAll();
+        routesTakesWhatLeadsNowhere();
         routesRefusals();
         failTakesRoutes();
         failLeavesFlitsAlone();
@@ -112,11 +113,18 @@ final class RouteTest {
         due.is("routes(1)", 1, net.routes(1));
         due.is("the longer one is gone", 0, net.route(0, 1, 0));
         due.is("ends but this one keep theirs", 1, net.route(0, 2, 1));
-        net.link(2, 1, 1);
-        net.route(2, 1, 12);
-        net.fail(3);
-        due.is("without a way there is none", 1, net.routes(1));
-        due.is("none at 2", NONE, net.route(2, 1, NONE));
+    }
+
+    /** Nodes 0 and 1 have links and old routes, but no way to 2. */
+    private static void routesTakesWhatLeadsNowhere() {
+        NetRoutes net = Nets.nodes(1, 3);
+        net.link(0, 1, 1);
+        net.link(1, 0, 1);
+        net.route(0, 2, 0);
+        net.route(1, 2, 4);
+        due.is("routes(2)", 0, net.routes(2));
+        due.is("none at 0", NONE, net.route(0, 2, NONE));
+        due.is("none at 1", NONE, net.route(1, 2, NONE));
     }
 
     private static void routesRefusals() {

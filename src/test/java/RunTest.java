@@ -11,6 +11,8 @@ final class RunTest {
         leavesBehindATail();
         askingOrder();
         channelStaysHeld();
+        heldChannelIsKept();
+        firstTurnIsOfLaneZero();
         lanesTakeTurns();
         roomAsItIsThen();
         noTwoMovesInACycle();
@@ -146,6 +148,49 @@ final class RunTest {
         net.run(1);
         due.is("packet 1 went through in one cycle", NONE, net.channel(0, 1));
         due.is("flits through it", 4, net.channel(0, 3));
+    }
+
+    /** A head that holds a channel without room waits for this one, even if its route is another by now. */
+    private static void heldChannelIsKept() {
+        NetRoutes net = Nets.line(3, 2);
+        net.route(1, 2, NONE);
+        net.send(0, 2, 4);
+        net.send(0, 2, 1);
+        net.run(5);
+        due.is("the head holds channel 0", 1, net.channel(0, 1));
+        net.route(0, 2, 1);
+        net.run(5);
+        due.is("it does not get channel 1 too", NONE, net.channel(1, 1));
+        due.is("nor goes there", 0, net.channel(1, 3));
+        due.is("it holds channel 0", 1, net.channel(0, 1));
+        net.routes(2);
+        net.route(0, 2, 1);
+        due.is("both arrive", 2, net.run(20));
+        due.is("by channel 0", 5, net.channel(0, 3));
+    }
+
+    /** Both channels of link 2 are held in the same cycle, by the buffers of links 0 and 1. */
+    private static void firstTurnIsOfLaneZero() {
+        for (int lane = 0; lane <= 1; lane++) {
+            NetRoutes net = Nets.nodes(1, 6);
+            net.link(0, 2, 1);
+            net.link(1, 2, 1);
+            net.link(2, 3, 2);
+            net.route(0, 4, 0);
+            net.route(1, 5, 4);
+            net.route(2, 4, 8 + lane);
+            net.route(2, 5, 9 - lane);
+            net.send(0, 4, 3);
+            net.send(1, 5, 3);
+            net.run(2);
+            due.is("held by", lane, net.channel(8, 1));
+            due.is("held by", 1 - lane, net.channel(9, 1));
+            due.is("lane 0 moved", 1, net.channel(8, 3));
+            due.is("lane 1 did not", 0, net.channel(9, 3));
+            net.run(1);
+            due.is("lane 0 did not", 1, net.channel(8, 3));
+            due.is("lane 1 moved", 1, net.channel(9, 3));
+        }
     }
 
     /** A link moves one flit in a cycle: its channels take turns, from the one behind the last. */
