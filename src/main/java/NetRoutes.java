@@ -396,25 +396,21 @@ public final class NetRoutes {
         }
 
         int flitsInQueues() {
-            int sum = 0;
-            for (int p = 0; p < many; p++) {
-                sum += waiting[p];
-            }
-            return sum;
+            return sumOf(waiting);
         }
 
         int flitsInBuffers() {
-            int sum = 0;
-            for (int p = 0; p < many; p++) {
-                sum += flits[p] - waiting[p] - left[p];
-            }
-            return sum;
+            return sumOf(flits) - sumOf(waiting) - sumOf(left);
         }
 
         int flitsLeft() {
+            return sumOf(left);
+        }
+
+        private int sumOf(int[] row) {
             int sum = 0;
-            for (int p = 0; p < many; p++) {
-                sum += left[p];
+            for (int p = 0; p < many && p < row.length; p++) {
+                sum += row[p];
             }
             return sum;
         }
