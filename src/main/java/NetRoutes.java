@@ -465,10 +465,11 @@ public final class NetRoutes {
         }
 
         void lineUp(int node, int packet) {
-            if (firstPacket[node] == NONE) {
+            int last = lastPacket[node];
+            if (firstPacket[node] == NONE || last == NONE) {
                 firstPacket[node] = packet;
             } else {
-                packetBehind[lastPacket[node]] = packet;
+                packetBehind[last] = packet;
             }
             lastPacket[node] = packet;
         }
@@ -489,6 +490,9 @@ public final class NetRoutes {
 
         private void dropFromQueue(int node) {
             int packet = firstPacket[node];
+            if (packet == NONE) {
+                return;
+            }
             packets.waiting[packet]--;
             if (packets.waiting[packet] == 0) {
                 firstPacket[node] = packetBehind[packet];
@@ -572,8 +576,9 @@ public final class NetRoutes {
         private boolean leaveAll() {
             boolean any = false;
             for (int input = 0; input < inputs.inUse(); input++) {
-                if (canLeave(input)) {
-                    packets.leave(inputs.frontOf(input), cycles);
+                int flit = flitToLeave(input);
+                if (flit != NONE) {
+                    packets.leave(flit, cycles);
                     inputs.dropFront(input);
                     any = true;
                 }
@@ -609,7 +614,10 @@ public final class NetRoutes {
 
         private void moveInto(int channel) {
             int input = holder[channel];
-            int flit = inputs.frontOf(input);
+            int flit = input == NONE ? NONE : inputs.frontOf(input);
+            if (flit == NONE) {
+                return;
+            }
             inputs.dropFront(input);
             inputs.put(channel, flit);
             entered[channel]++;
@@ -621,15 +629,15 @@ public final class NetRoutes {
             }
         }
 
-        private boolean canLeave(int input) {
+        private int flitToLeave(int input) {
             int front = inputs.frontOf(input);
-            return front != NONE && packets.endOf(front) == inputs.nodeOf(input);
+            return front != NONE && packets.endOf(front) == inputs.nodeOf(input) ? front : NONE;
         }
 
         /** While nothing changes, the three parts of a cycle all see the net as it is now. */
         boolean isAtRest() {
             for (int input = 0; input < inputs.inUse(); input++) {
-                if (channelToGet(input) != NONE || canLeave(input)) {
+                if (channelToGet(input) != NONE || flitToLeave(input) != NONE) {
                     return false;
                 }
             }
@@ -701,9 +709,9 @@ public final class NetRoutes {
                 int step = firstStep[next];
                 for (int k = 0; k < PAIRS && step != NONE; k++) {
                     int before = plan.ways[step];
-                    if (toClose[before] == 0) {
+                    if (before != NONE && toClose[before] == 0) {
                         toClose[before] = toClose[next] + 1;
-                        if (before != channel) {
+                        if (before != channel && many < CHANNELS) {
                             reached[many] = before;
                             many++;
                         }
@@ -715,6 +723,9 @@ public final class NetRoutes {
         }
 
         int channelBehind(int k) {
+            if (start == NONE) {
+                return NONE;
+            }
             closeAt(start);
             int channel = start;
             for (int n = 1; n <= k && channel != NONE; n++) {

@@ -1,5 +1,5 @@
 /** Compares answers with what is due, prints those that differ, and ends the test with exit code 1 if there was one. */
-final class Due {
+class Due {
     interface Call {
         long answer();
     }
@@ -7,19 +7,19 @@ final class Due {
     private int wrong;
     private int asked;
 
-    void is(String what, long want, long got) {
+    final void is(String what, long want, long got) {
         asked++;
         if (got != want) {
             tell(what + " answered " + got + ", due is " + want);
         }
     }
 
-    void is(String what, boolean want, boolean got) {
+    final void is(String what, boolean want, boolean got) {
         is(what, want ? 1 : 0, got ? 1 : 0);
     }
 
     /** The very class of exception, not one below it. */
-    void throwing(String what, Class<? extends RuntimeException> want, Call call) {
+    final void throwing(String what, Class<? extends RuntimeException> want, Call call) {
         asked++;
         String got;
         try {
@@ -40,8 +40,12 @@ final class Due {
         }
     }
 
-    boolean hasFault() {
+    final boolean hasFault() {
         return wrong > 0;
+    }
+
+    final int asked() {
+        return asked;
     }
 
     void end() {

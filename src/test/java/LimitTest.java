@@ -8,21 +8,8 @@ final class LimitTest {
         due.end();
     }
 
-    /** Sixteen nodes in a circle, with links both ways, and eight across. */
-    private static NetRoutes bothWays() {
-        NetRoutes net = Nets.nodes(9, 16);
-        for (int k = 0; k < 16; k++) {
-            net.link(k, (k + 1) % 16, 4);
-            net.link((k + 1) % 16, k, 4);
-        }
-        for (int k = 0; k < 8; k++) {
-            net.link(k, k + 8, 4);
-        }
-        return Nets.withAllRoutes(net);
-    }
-
     private static void fullNet() {
-        NetRoutes net = bothWays();
+        NetRoutes net = Nets.full();
         due.is("nodes", 16, net.count(0));
         due.is("links", 40, net.count(1));
         due.is("all come to all", 0, net.count(9));
@@ -51,7 +38,7 @@ final class LimitTest {
 
     /** All routes go one way round, by four rings of channels beside one another. */
     private static void crowdedRing() {
-        NetRoutes net = bothWays();
+        NetRoutes net = Nets.full();
         for (int node = 0; node < 16; node++) {
             for (int to = 0; to < 16; to++) {
                 if (node != to) {
