@@ -116,6 +116,11 @@ final class EdgeCountTest {
         failed.send(0, 1, 1);
         failed.fail(0);
         edges.is("no route: nothing can be held", true, failed.stuck());
+        NetRoutes full = Nets.full();
+        full.send(15, 7, 16);
+        edges.is("with all nodes and links", false, full.stuck());
+        full.route(15, 7, NONE);
+        edges.is("with all nodes and links, without a route", true, full.stuck());
     }
 
     private static void nodes() {

@@ -105,6 +105,28 @@ final class EdgeTermsTest {
         net.route(1, 2, 4);
         net.run(1);
         edges.is("they are where the link ends: one goes on from there", 1, net.channel(4, 3));
+        lastBuffer();
+    }
+
+    /** Packets from 14 to 0 go by channel 159, the last of all, to 15, where their way is shut at first. */
+    private static void lastBuffer() {
+        NetRoutes net = Nets.nodes(1, 16);
+        for (int k = 0; k < 38; k++) {
+            net.link(0, 1, 4);
+        }
+        net.link(15, 0, 4);
+        net.link(14, 15, 4);
+        net.route(14, 0, 159);
+        net.send(14, 0, 3);
+        net.send(14, 0, 3);
+        net.run(50);
+        edges.is("the last buffer of all", 4, net.channel(159, 0));
+        edges.is("stuck", true, net.stuck());
+        net.route(15, 0, 155);
+        edges.is("not stuck", false, net.stuck());
+        edges.is("arrived", 2, net.run(50));
+        edges.is("flits by it", 6, net.channel(159, 3));
+        edges.is("flits by the one before it", 6, net.channel(155, 3));
     }
 
     private static void channelNumbers() {
@@ -267,6 +289,13 @@ final class EdgeTermsTest {
         net.route(0, 2, NONE);
         net.route(0, 3, 0);
         edges.is("some end: by end 3", 4, net.ringAt(1));
+        NetRoutes highest = Nets.nodes(1, 16);
+        highest.link(14, 15, 1);
+        highest.link(15, 14, 1);
+        highest.route(14, 0, 0);
+        highest.route(15, 0, 4);
+        edges.is("by end 0", 2, highest.ring());
+        edges.is("its second", 4, highest.ringAt(1));
     }
 
     private static void anotherNodeThanTheEnd() {

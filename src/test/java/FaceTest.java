@@ -10,10 +10,12 @@ import java.util.TreeSet;
 
 /** The public face of the document, and what of LANGUAGE.md a look at the source can tell. */
 final class FaceTest {
+    private static final Path SOURCE = Path.of("src/main/java/NetRoutes.java");
     private static final Due due = new Due();
 
     public static void main(String[] args) throws IOException {
         face();
+        asInTheDocument();
         nothingElse();
         source();
         due.end();
@@ -45,6 +47,23 @@ final class FaceTest {
         due.is("a public one", true, Modifier.isPublic(made[0].getModifiers()));
     }
 
+    /** Every line of the document's face stands in the source, with its parameters' names and its exceptions. */
+    private static void asInTheDocument() throws IOException {
+        String document = Files.readString(Path.of("../shared/DOC.md"));
+        int begin = document.indexOf("```java") + "```java".length();
+        String source = textOf(Files.readString(SOURCE));
+        for (String line : document.substring(begin, document.indexOf("```", begin)).split("\n")) {
+            String head = textOf(line.replace(";", ""));
+            if (!head.isEmpty()) {
+                due.is("'" + head + "' in the source", true, source.contains(head));
+            }
+        }
+    }
+
+    private static String textOf(String lines) {
+        return lines.replaceAll("\\s+", " ").strip();
+    }
+
     private static void nothingElse() {
         Set<String> names = new TreeSet<>();
         for (Method m : NetRoutes.class.getDeclaredMethods()) {
@@ -65,7 +84,7 @@ final class FaceTest {
     }
 
     private static void source() throws IOException {
-        String text = Files.readString(Path.of("src/main/java/NetRoutes.java"));
+        String text = Files.readString(SOURCE);
         String[] barred = {"->", "::", "catch", "finally", "synchronized", "assert", "package ", "Math.", "static {",
             "System.out", "Random", "Thread", "while (true)", "equals(", "hashCode", "toString"};
         for (String word : barred) {

@@ -8,8 +8,7 @@ import java.util.TreeSet;
 import java.util.function.Consumer;
 
 /**
- * The document put into objects and lists word by word, with no thought of speed, to compare NetRoutes with. It takes
- * right arguments only.
+ * The document put into objects and lists word by word, with no thought of speed, to compare NetRoutes with.
  */
 final class Model {
     static final int NONE = -1;
@@ -67,7 +66,34 @@ final class Model {
         draws = new Draws(seed);
     }
 
+    private static void refuseArgument(boolean when) {
+        if (when) {
+            throw new IllegalArgumentException();
+        }
+    }
+
+    private static void refuseIndex(boolean when) {
+        if (when) {
+            throw new IndexOutOfBoundsException();
+        }
+    }
+
+    private static void refuseLimit(boolean when) {
+        if (when) {
+            throw new UnsupportedOperationException();
+        }
+    }
+
+    private boolean isNode(int node) {
+        return node >= 0 && node < queues.size();
+    }
+
+    private boolean isLink(int link) {
+        return link >= 0 && link < links.size();
+    }
+
     int node() {
+        refuseLimit(queues.size() == 16);
         log.add(Model::node);
         Input queue = new Input();
         queue.node = queues.size();
@@ -77,6 +103,10 @@ final class Model {
     }
 
     int link(int a, int b, int many) {
+        refuseArgument(!isNode(a) || !isNode(b));
+        refuseArgument(a == b);
+        refuseArgument(many < 1 || many > 4);
+        refuseLimit(links.size() == 40);
         log.add(m -> m.link(a, b, many));
         Link link = new Link();
         link.from = a;
@@ -100,12 +130,17 @@ final class Model {
     }
 
     int route(int node, int to, int number) {
+        refuseArgument(!isNode(node) || !isNode(to));
+        refuseArgument(node == to);
+        Channel taken = channelOf(number);
+        refuseArgument(number != NONE && (taken == null || taken.link.from != node || taken.link.failed));
         log.add(m -> m.route(node, to, number));
-        Channel before = number == NONE ? tables.get(node).remove(to) : tables.get(node).put(to, channelOf(number));
+        Channel before = number == NONE ? tables.get(node).remove(to) : tables.get(node).put(to, taken);
         return before == null ? NONE : before.number;
     }
 
     int routes(int to) {
+        refuseArgument(!isNode(to));
         log.add(m -> m.routes(to));
         int[] far = distancesTo(to);
         int made = 0;
@@ -137,6 +172,8 @@ final class Model {
     }
 
     int fail(int number) {
+        refuseArgument(!isLink(number));
+        refuseArgument(links.get(number).failed);
         log.add(m -> m.fail(number));
         Link link = links.get(number);
         link.failed = true;
@@ -152,6 +189,9 @@ final class Model {
     }
 
     int send(int from, int to, int flits) {
+        refuseArgument(!isNode(from) || !isNode(to));
+        refuseArgument(flits < 1 || flits > 16);
+        refuseLimit(packets.size() == 400);
         log.add(m -> m.send(from, to, flits));
         return addPacket(from, to, flits);
     }
@@ -173,6 +213,11 @@ final class Model {
     }
 
     int load(int many) {
+        refuseArgument(many < 1 || many > 50);
+        if (queues.isEmpty()) {
+            throw new IllegalStateException();
+        }
+        refuseLimit(packets.size() + many > 400);
         log.add(m -> m.load(many));
         for (int k = 0; k < many; k++) {
             int from = draws.next() % queues.size();
@@ -183,6 +228,7 @@ final class Model {
     }
 
     int run(int cycles) {
+        refuseArgument(cycles < 1 || cycles > 2000);
         log.add(m -> m.run(cycles));
         int before = arrived();
         for (int k = 0; k < cycles; k++) {
@@ -267,6 +313,8 @@ final class Model {
     }
 
     int packet(int p, int what) {
+        refuseIndex(p < 0 || p >= packets.size());
+        refuseIndex(what < 0 || what > 3);
         Packet packet = packets.get(p);
         int waiting = (int) packet.queue.flits.stream().filter(f -> f.packet == packet && f.came == NONE).count();
         int buffered = 0;
@@ -280,6 +328,8 @@ final class Model {
 
     int channel(int number, int what) {
         Channel channel = channelOf(number);
+        refuseIndex(channel == null);
+        refuseIndex(what < 0 || what > 3);
         Flit first = channel.flits.peekFirst();
         return new int[] {channel.flits.size(), packets.indexOf(channel.heldFor),
             first == null ? NONE : packets.indexOf(first.packet), channel.entered}[what];
@@ -316,8 +366,10 @@ final class Model {
                 return moved;
             case 8:
                 return left;
-            default:
+            case 9:
                 return pairsWithoutWay();
+            default:
+                return NONE;
         }
     }
 
@@ -336,8 +388,18 @@ final class Model {
         return without;
     }
 
+    int ring() {
+        return shortestRing().size();
+    }
+
+    int ringAt(int k) {
+        List<Integer> ring = shortestRing();
+        refuseIndex(k < 0 || k >= ring.size());
+        return ring.get(k);
+    }
+
     /** The channels of the ring, none without: of all shortest closed walks the one that is lowest, as a row. */
-    List<Integer> ring() {
+    private List<Integer> shortestRing() {
         Map<Integer, TreeSet<Integer>> graph = graph();
         for (int length = 1; length <= graph.size(); length++) {
             for (int start : new TreeSet<>(graph.keySet())) {
