@@ -8,7 +8,7 @@ import java.nio.file.Path;
 import java.util.Set;
 import java.util.TreeSet;
 
-/** The public face of the document, and what of LANGUAGE.md a look at the source can tell. */
+/** The public face of the document, and nothing beside it. */
 final class FaceTest {
     private static final Path SOURCE = Path.of("src/main/java/NetRoutes.java");
     private static final Due due = new Due();
@@ -17,7 +17,6 @@ final class FaceTest {
         face();
         asInTheDocument();
         nothingElse();
-        source();
         due.end();
     }
 
@@ -80,20 +79,6 @@ final class FaceTest {
         for (Class<?> inside : NetRoutes.class.getDeclaredClasses()) {
             due.is(inside.getName() + " is static", true, Modifier.isStatic(inside.getModifiers()));
             due.is(inside.getName() + " has few fields", true, inside.getDeclaredFields().length <= 20);
-        }
-    }
-
-    private static void source() throws IOException {
-        String text = Files.readString(SOURCE);
-        String[] barred = {"->", "::", "catch", "finally", "synchronized", "assert", "package ", "Math.", "static {",
-            "System.out", "Random", "Thread", "while (true)", "equals(", "hashCode", "toString"};
-        for (String word : barred) {
-            due.is("'" + word + "' in the source", NetRoutes.NONE, text.indexOf(word));
-        }
-        for (String line : text.split("\n")) {
-            if (line.startsWith("import ")) {
-                due.is(line, true, line.equals("import java.util.Arrays;"));
-            }
         }
     }
 }
